@@ -427,9 +427,9 @@ public final class GreaterBodies {
       ring = new int[most + 2];
     }
 
+    /** The corners stay those of before until wrap finds them anew. */
     void empty() {
       places = 0;
-      round = 0;
     }
 
     /** Places are kept by x, then y: the order that the walk round them needs. */
@@ -528,7 +528,7 @@ public final class GreaterBodies {
 
     /** Whether the place is within or on the rim. */
     boolean holds(int px, int py, int pw) {
-      // Of a flat outline no step has anything on its right along its own line: the ends decide.
+      // On the line of a flat outline no place is on the right of a step: its ends decide there.
       if (places == 0 || side(0, px, py, pw) > 0 || side(places - 1, px, py, pw) < 0) {
         return false;
       }
@@ -809,7 +809,7 @@ public final class GreaterBodies {
   }
 
   /**
-   * Where threes of walls meet, and the lines on which twos do, of all walls whether on
+   * Where threes of walls meet, and the steps along which twos do, of all walls whether on
    * or not: with what breaks them kept beside, any set of walls is judged by its bits.
    */
   private static final class Meets {
@@ -820,7 +820,6 @@ public final class GreaterBodies {
     private final int[] makers = new int[MOST_MEETS];
     private final int[] breakers = new int[MOST_MEETS];
     private final int[] touchers = new int[MOST_MEETS];
-    private final int[] rayMakers = new int[MOST_RAYS];
     private final int[] rayBreakers = new int[MOST_RAYS];
     private int size;
     private int rays;
@@ -881,11 +880,11 @@ public final class GreaterBodies {
       if (stepX == 0 && stepY == 0 && stepZ == 0) {
         return;
       }
-      addRay(walls, 1 << i | 1 << j, stepX, stepY, stepZ);
-      addRay(walls, 1 << i | 1 << j, -stepX, -stepY, -stepZ);
+      addRay(walls, stepX, stepY, stepZ);
+      addRay(walls, -stepX, -stepY, -stepZ);
     }
 
-    private void addRay(Walls walls, int pair, int stepX, int stepY, int stepZ) {
+    private void addRay(Walls walls, int stepX, int stepY, int stepZ) {
       if (rays >= MOST_RAYS) {
         return;
       }
@@ -895,7 +894,6 @@ public final class GreaterBodies {
           breaking |= 1 << n;
         }
       }
-      rayMakers[rays] = pair;
       rayBreakers[rays] = breaking;
       rays++;
     }
@@ -939,19 +937,9 @@ public final class GreaterBodies {
 
     /** Whether a step goes on without end in a body with just these walls that has a vertex. */
     boolean isEndless(int set) {
-      // Such a body has no whole line in it, so it is endless along one of its own rims.
+      // Such a body has no whole line in it: if it is endless, then along a line of two of its walls.
       for (int i = 0; i < rays; i++) {
-        if ((rayMakers[i] & ~set) == 0 && (rayBreakers[i] & set) == 0) {
-          return true;
-        }
-      }
-      return false;
-    }
-
-    /** Whether two walls of the set have steps that are no multiples of one another. */
-    boolean meetInLine(int set) {
-      for (int i = 0; i < rays; i++) {
-        if ((rayMakers[i] & ~set) == 0) {
+        if ((rayBreakers[i] & set) == 0) {
           return true;
         }
       }
@@ -1076,10 +1064,9 @@ public final class GreaterBodies {
     }
 
     private boolean isRim(int i, int j) {
+      // Two vertices alone on what is tight at both end an edge, and two walls cross along an edge:
+      // in a sound body the steps need no look of their own.
       int common = tightAt(i) & tightAt(j);
-      if (!meets.meetInLine(common)) {
-        return false;
-      }
       for (int k = 0; k < size; k++) {
         if (k != i && k != j && (common & ~tightAt(k)) == 0) {
           return false;
@@ -1093,22 +1080,19 @@ public final class GreaterBodies {
       if (!walls.isOn(wall)) {
         return false;
       }
+      // Two of the others cross at least: without a vertex they would be endless along that line.
       int others = walls.onSet() & ~(1 << wall);
       if (meets.isEndless(others)) {
         return false;
       }
-      // A body with an end that breaks the wall nowhere at a vertex breaks it nowhere at all,
+      // A body with an end whose vertices all hold at the wall holds at it everywhere,
       // so it is the body with the wall, and its vertices are the same.
-      boolean any = false;
       for (int m = 0; m < meets.size(); m++) {
-        if (meets.isVertex(m, others)) {
-          if (meets.isBroken(m, wall)) {
-            return false;
-          }
-          any = true;
+        if (meets.isVertex(m, others) && meets.isBroken(m, wall)) {
+          return false;
         }
       }
-      return any;
+      return true;
     }
 
     /** The first vertex at which p x + q y + s z is at most; the body is sound. */

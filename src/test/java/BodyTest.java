@@ -150,6 +150,40 @@ public final class BodyTest {
     check.due("24: two slanted walls close it", of(1, 0, 0, 1, -1, 0, 0, 1, 0, 1, 0, 1, 0, -1, 0, 1, 0, 0, 1, 1, 5, 5, -1, 0).sound(), 1);
     check.due("24: a pillar without a vertex", of(1, 0, 0, 1, -1, 0, 0, 1, 0, 1, 0, 1, 0, -1, 0, 1).sound(), 0);
     check.due("24: flat, and without end in one step", of(0, 0, 1, 0, 0, 0, -1, 0, 1, 0, 0, 5, -1, 0, 0, 5, 0, 1, 0, 5).sound(), 0);
+    inEveryOrder("one step, flat", 0, new int[][] {{0, 0, 1, 0}, {0, 0, -1, 0}, {1, 0, 0, 5}, {-1, 0, 0, 5}, {0, 1, 0, 5}});
+    inEveryOrder("one step, the other way", 0, new int[][] {{0, 0, 1, 0}, {0, 0, -1, 0}, {1, 0, 0, 5}, {-1, 0, 0, 5}, {0, -1, 0, 5}});
+    inEveryOrder("one step, a line", 0, new int[][] {{0, 0, 1, 0}, {0, 0, -1, 0}, {1, 0, 0, 0}, {-1, 0, 0, 0}, {0, 1, 0, 5}});
+    inEveryOrder("one step of a tip aslant", 0, new int[][] {{1, 2, 3, 6}, {-2, 1, -1, 4}, {1, -3, -2, 5}, {1, 1, 0, 3}});
+    inEveryOrder("a tip", 0, new int[][] {{1, 2, 3, 6}, {-2, 1, -1, 4}, {1, -3, -1, 5}});
+    inEveryOrder("two tips", 1, new int[][] {{1, 2, 3, 6}, {-2, 1, -1, 4}, {1, -3, -1, 5}, {1, 2, -2, 7}, {-1, -1, 0, 6}});
+    inEveryOrder("flat, closed", 1, new int[][] {{0, 0, 1, 0}, {0, 0, -1, 0}, {1, 1, 0, 5}, {-1, 1, 0, 5}, {0, -1, 0, 5}});
+  }
+
+  private static void inEveryOrder(String body, int due, int[][] walls) {
+    inEveryOrder(body, due, walls, 0);
+  }
+
+  private static void inEveryOrder(String body, int due, int[][] walls, int set) {
+    if (set < walls.length) {
+      for (int i = set; i < walls.length; i++) {
+        swap(walls, i, set);
+        inEveryOrder(body, due, walls, set + 1);
+        swap(walls, i, set);
+      }
+      return;
+    }
+    GreaterBodies g = new GreaterBodies();
+    for (int[] w : walls) {
+      g.wall(w[0], w[1], w[2], w[3]);
+    }
+    check.due("24: " + body + " " + java.util.Arrays.deepToString(walls), g.sound(), due);
+    check.holds("24: it has a vertex", g.vertices() > 0);
+  }
+
+  private static void swap(int[][] walls, int i, int j) {
+    int[] wall = walls[i];
+    walls[i] = walls[j];
+    walls[j] = wall;
   }
 
   private static void promise25() {

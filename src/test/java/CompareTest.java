@@ -1,6 +1,6 @@
 /** Runs of calls, made by a fixed rule, each answered by the class and by the plain one alike. */
 public final class CompareTest {
-  private static final int RUNS = 700;
+  private static final int RUNS = 800;
   private static final Check check = new Check("CompareTest");
   private static long seed;
 
@@ -16,13 +16,14 @@ public final class CompareTest {
     for (int run = 0; run < RUNS; run++) {
       seed = 7919L * run + 1;
       CompareTest t = new CompareTest(run);
-      switch (run % 7) {
+      switch (run % 8) {
         case 0 -> t.figures();
         case 1 -> t.bodies(2, 6);
         case 2 -> t.bodies(9, 99);
         case 3 -> t.boxes();
         case 4 -> t.shadows();
         case 5 -> t.tables();
+        case 6 -> t.flats();
         default -> t.anything();
       }
     }
@@ -222,6 +223,31 @@ public final class CompareTest {
     askFewest();
   }
 
+  /** Bodies between two walls of one plane, without end as often as not. */
+  private void flats() {
+    int[] up = {from(-1, 1), from(-1, 1), 1};
+    int level = from(-1, 1);
+    wall(from(-1, 1), from(-1, 1), 1, from(0, 3));
+    for (int i = 0; i < 7; i++) {
+      int side = i == pick(7) ? -1 : 1;
+      if (i == 2 || i == 5) {
+        int sign = i == 2 ? 1 : -1;
+        wall(sign * up[0], sign * up[1], sign * up[2], sign * level);
+      } else {
+        wall(from(-1, 1), from(-1, 1), from(-1, 1) * side, from(0, 3));
+      }
+      askBody();
+      askShadow();
+    }
+    for (int i = 0; i < 3; i++) {
+      point(from(-2, 2), from(-2, 2));
+    }
+    askFewest();
+    change();
+    askBody();
+    askShadow();
+  }
+
   private void change() {
     int w = from(-1, 10);
     if (coin()) {
@@ -266,6 +292,14 @@ public final class CompareTest {
     askFewest();
     askBounds();
     change();
+    askFewest();
+    askShadow();
+    int n = pick(p.count(0));
+    int x = from(-4, 4);
+    int y = from(-4, 4);
+    due("move(" + n + ", " + x + ", " + y + ")", g.move(n, x, y), p.move(n, x, y));
+    askFewest();
+    point(from(-4, 4), from(-4, 4));
     askFewest();
     askShadow();
   }

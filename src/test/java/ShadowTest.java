@@ -244,6 +244,54 @@ public final class ShadowTest {
     check.due("35: the corner that is cut off is not needed", cut.fewest(), 6);
     cut.on(5, false);
     check.due("35: without end", cut.fewest(), NONE);
+    forgotten();
+    oneCornerShort();
+    check.due("35: all ten walls", eight().fewest(), 10);
+  }
+
+  /** Every call that changes the figure or the walls brings another answer. */
+  private static void forgotten() {
+    GreaterBodies g = Shapes.square();
+    Shapes.box(g);
+    check.due("35: before", g.fewest(), 6);
+    g.point(2, 2);
+    check.due("35: after point", g.fewest(), NONE);
+    g.move(4, 1, 0);
+    check.due("35: after move", g.fewest(), 6);
+    g.shift(2, 2);
+    check.due("35: after shift", g.fewest(), NONE);
+    g.wall(0, 1, 0, 1);
+    check.due("35: after wall", g.fewest(), 6);
+    g.on(5, false);
+    check.due("35: after off", g.fewest(), NONE);
+    g.on(5, true);
+    check.due("35: after on", g.fewest(), 6);
+    g.clear();
+    check.due("35: after clear", g.fewest(), NONE);
+  }
+
+  /** The shadow lies in the figure and has all of its corners but one. */
+  private static void oneCornerShort() {
+    for (int i = 0; i < 4; i++) {
+      GreaterBodies g = Shapes.square();
+      Shapes.box(g);
+      check.due("35: all corners", g.fewest(), 6);
+      g.move(i, i == 0 || i == 3 ? -2 : 2, i < 2 ? -1 : 1);
+      check.due("35: corner " + i + " is too far", g.fewest(), NONE);
+      check.due("35: and missed", g.missed(), 1);
+    }
+  }
+
+  /** Eight corners on upright walls, a floor and a lid: ten walls, none of them idle. */
+  private static GreaterBodies eight() {
+    GreaterBodies g = of(1, 0, 0, 3, -1, 0, 0, 3, 0, 1, 0, 3, 0, -1, 0, 3, 1, 1, 0, 4, 1, -1, 0, 4, -1, 1, 0, 4, -1, -1, 0, 4, 0, 0, 1, 1, 0, 0, -1, 1);
+    int[][] corners = {{3, 1}, {3, -1}, {-3, 1}, {-3, -1}, {1, 3}, {1, -3}, {-1, 3}, {-1, -3}};
+    for (int[] c : corners) {
+      g.point(c[0], c[1]);
+    }
+    check.due("eight corners", g.corners(), 8);
+    check.due("seen", g.seen(), 1);
+    return g;
   }
 
   private static void promise36() {
@@ -272,6 +320,7 @@ public final class ShadowTest {
     check.row("36: the second of them", needed(two), 1, 2, 3, 8);
     two.on(8, false);
     check.row("36: none", needed(two));
+    check.row("36: all ten", needed(eight()), 0, 1, 2, 3, 4, 5, 6, 7, 8, 9);
   }
 
   private static void blow(GreaterBodies g, String call, long over, long below) {
