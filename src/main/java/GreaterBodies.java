@@ -295,13 +295,16 @@ public final class GreaterBodies {
 
   public int needed(int i) {
     int chosen = choice.walls(plane, space);
-    if (i < 0 || i >= Integer.bitCount(chosen)) {
-      return NONE;
+    int passed = 0;
+    for (int wall = 0; wall < MOST_WALLS; wall++) {
+      if ((chosen >> wall & 1) == 1) {
+        if (passed == i) {
+          return wall;
+        }
+        passed++;
+      }
     }
-    for (int passed = 0; passed < i; passed++) {
-      chosen &= chosen - 1;
-    }
-    return Integer.numberOfTrailingZeros(chosen);
+    return NONE;
   }
 
   public long blow(boolean upper) {
@@ -1148,16 +1151,23 @@ public final class GreaterBodies {
       int best = 0;
       // With wall 0 as the highest bit, of as many walls the first by walls come first downwards.
       for (int mirrored = (1 << MOST_WALLS) - 1; mirrored > 0; mirrored--) {
-        int set = Integer.reverse(mirrored) >>> 32 - MOST_WALLS;
-        boolean fewer = best == 0 || Integer.bitCount(set) < Integer.bitCount(best);
-        if (fewer && (set & ~onSet) == 0 && shows(meets, set, all)) {
-          best = set;
+        if (best == 0 || Integer.bitCount(mirrored) < Integer.bitCount(best)) {
+          int set = mirror(mirrored);
+          best = (set & ~onSet) == 0 && shows(meets, set, all) ? set : best;
         }
       }
       return best;
     }
 
-    /** Notes where all meets fall; the corners on which one of walls that are on does. */
+    private static int mirror(int set) {
+      int mirrored = 0;
+      for (int wall = 0; wall < MOST_WALLS; wall++) {
+        mirrored |= (set >> wall & 1) << MOST_WALLS - 1 - wall;
+      }
+      return mirrored;
+    }
+
+    /** Notes where all meets fall, and tells the corners on which meets of walls that are on do. */
     private int castAll(Outline hull, Meets meets, int onSet) {
       int hit = 0;
       for (int m = 0; m < meets.size(); m++) {

@@ -36,6 +36,11 @@ public final class BoundsTest {
     GreaterBodies g = round(4);
     g.point(0, 0);
     check.due("10: a point within", g.open(), 8);
+    GreaterBodies small = new GreaterBodies();
+    small.point(0, 0);
+    small.point(1, 0);
+    small.point(0, 1);
+    check.due("10: slack of 1", small.open(), 3);
     GreaterBodies line = new GreaterBodies();
     line.point(0, 0);
     line.point(1, 1);

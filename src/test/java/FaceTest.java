@@ -118,6 +118,10 @@ public final class FaceTest {
     for (String sign : new String[] {"->", "::", "\"", "@", "Exact("}) {
       check.holds("no " + sign, !bare.contains(sign));
     }
+    Matcher library = Pattern.compile("\\b(Math|Integer|Long|Arrays|String|List)\\.(\\w+)").matcher(bare);
+    while (library.find()) {
+      check.holds("library: " + library.group(), Set.of("Math.max", "Math.min", "Math.abs", "Integer.bitCount", "Long.compare").contains(library.group()));
+    }
     check.holds("signs 10, 32 to 126 alone", source.chars().allMatch(c -> c == 10 || c >= 32 && c <= 126));
     shortMethods(source);
   }

@@ -246,6 +246,7 @@ public final class ShadowTest {
     check.due("35: without end", cut.fewest(), NONE);
     forgotten();
     oneCornerShort();
+    oneCornerBeyond();
     check.due("35: all ten walls", eight().fewest(), 10);
   }
 
@@ -279,6 +280,18 @@ public final class ShadowTest {
       g.move(i, i == 0 || i == 3 ? -2 : 2, i < 2 ? -1 : 1);
       check.due("35: corner " + i + " is too far", g.fewest(), NONE);
       check.due("35: and missed", g.missed(), 1);
+    }
+  }
+
+  /** The shadow has all corners of the figure, and one that is outside of it. */
+  private static void oneCornerBeyond() {
+    for (int i = 0; i < 4; i++) {
+      GreaterBodies g = Shapes.square();
+      Shapes.box(g);
+      g.move(i, 0, 0);
+      check.due("35: without corner " + i, g.corners(), 3);
+      check.due("35: it is beyond", g.beyond(), 1);
+      check.due("35: so there are none", g.fewest(), NONE);
     }
   }
 
