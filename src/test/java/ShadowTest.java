@@ -247,6 +247,7 @@ public final class ShadowTest {
     forgotten();
     oneCornerShort();
     oneCornerBeyond();
+    oneCornerHalf();
     check.due("35: all ten walls", eight().fewest(), 10);
   }
 
@@ -281,6 +282,19 @@ public final class ShadowTest {
       check.due("35: corner " + i + " is too far", g.fewest(), NONE);
       check.due("35: and missed", g.missed(), 1);
     }
+  }
+
+  /** Walls meet over every corner, but no body of them has a vertex over the first. */
+  private static void oneCornerHalf() {
+    GreaterBodies g = Shapes.square();
+    int[][] walls = {{1, 0, 0, 1}, {0, 1, 0, 1}, {-1, -1, 0, 0}, {0, 0, 1, 1}, {0, 0, -1, 1}, {1, -1, 0, 0}, {-1, 0, 0, 1}};
+    for (int[] w : walls) {
+      g.wall(w[0], w[1], w[2], w[3]);
+    }
+    check.due("35: no set shows it", g.fewest(), NONE);
+    g.wall(0, -1, 0, 1);
+    check.due("35: a wall more, and one does", g.fewest(), 6);
+    check.row("35: these", needed(g), 0, 1, 3, 4, 6, 7);
   }
 
   /** The shadow has all corners of the figure, and one that is outside of it. */
