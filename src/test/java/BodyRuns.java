@@ -12,6 +12,10 @@ final class BodyRuns {
   static final String TEN = """
       walls 0 0 1 6, 1 0 1 8, -1 0 1 8, 3 0 1 18, -3 0 1 18, 0 0 -1 6, 0 1 -1 8, 0 -1 -1 8, 0 3 -1 18, 0 -3 -1 18
       """;
+  /** Any three of ten walls meet in a place; none is idle. */
+  private static final String ANY_THREE = """
+      walls -3 3 2 10, -1 3 -3 11, 0 3 2 10, 3 2 -2 7, 0 3 1 9, 2 -2 3 8, -1 -2 3 7, -1 -2 -1 8, -3 -1 0 6, 1 -2 -3 9
+      """;
   /** Flat: z is 2, a square. */
   private static final String SHEET = """
       walls 0 0 1 2, 0 0 -1 -2, 1 0 0 1, -1 0 0 1, 0 1 0 1, 0 -1 0 1
@@ -94,6 +98,10 @@ final class BodyRuns {
         """ + "new\n" + TEN + """
         vertices() 16; vertex(0, 0) -8; vertex(0, 1) -2; vertex(0, 2) -6; vertex(1, 1) 2; vertex(2, 0) -7; vertex(2, 1) -5
         vertex(15, 0) 8; vertex(15, 1) 2; vertex(15, 2) -6; vertex(16, 0) UNKNOWN
+        """ + "new\n" + ANY_THREE + """
+        vertices() 16; tights 259 321 770 896 448 19 522 26 69 21 704 608 100 28 44 552      # 896: the last three WALLS
+        vertex(3, 0) -9/8; vertex(3, 1) -21/8; vertex(3, 2) -13/8; vertex(6, 0) -1/11; vertex(7, 0) -1/11; vertex(6, 1) 4/11; vertex(7, 1) 139/44
+        points 0 0, 1 0, 0 1; fewest() NONE; rims() 24; shadow() 9
         """);
   }
 
@@ -122,6 +130,11 @@ final class BodyRuns {
         new                                     # flat, and one step goes on
         walls 0 0 1 0, 0 0 -1 0, 1 0 0 5, -1 0 0 5, 0 1 0 5; spots -5 5 0, 5 5 0; sound() 0
         walls 0 -1 0 -5; spots -5 5 0, 5 5 0; sound() 1
+        new                                     # aslant: the steps -1, -1, 1 and 1, 1, -1 are 0 for three
+        walls 1 2 3 6, -2 1 -1 4, 1 -3 -2 5; vertices() 0; sound() 0; walls 1 1 0 3; vertices() 3; sound() 0
+        walls -1 -1 0 3; vertices() 6; sound() 1; on(3, false) 1; vertices() 3; sound() 0
+        new
+        walls 1 2 3 6, -2 1 -1 4, 1 -3 -1 5; vertices() 1; sound() 0; walls 1 2 -2 7, -1 -1 0 6; sound() 1
         """ + "new\n" + ONE_PLACE + "sound() 1\nnew\n" + TENT + "sound() 1; on(8, false) 1; spots 0 0 4; sound() 0\n");
   }
 
@@ -161,6 +174,8 @@ final class BodyRuns {
         idle(0) 0; idle(1) 0; idle(2) 0; idle(5) 0
         """ + "new\n" + ONE_PLACE + """
         idle(0) 1; idle(1) 1; idle(2) 1; idle(3) 1; idle(4) 1; idle(5) 1; idle(6) 1; idle(7) 1; idle(8) 1; idle(9) 1
+        """ + "new\n" + ANY_THREE + """
+        idle(0) 0; idle(1) 0; idle(2) 0; idle(3) 0; idle(4) 0; idle(5) 0; idle(6) 0; idle(7) 0; idle(8) 0; idle(9) 0
         """);
   }
 

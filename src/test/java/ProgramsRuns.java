@@ -51,6 +51,10 @@ final class ProgramsRuns {
         at(2, 3, 5) 1; at(2, 3, 0) 2; at(99, 99, 99) 3; at(-1, 0, 0) 0; at(0, 0, -99) 0; at(2, 3, 4) 2
         """ + "new\n" + BodyRuns.TEN + """
         at(1, 0, 0) 14; at(1, 1, 0) 11; at(-1, -1, 0) 2; at(0, 0, 1) 6; at(99, 1, 0) 15
+        new                                     # two of them, multiplied crosswise, are more than 32 bits hold
+        walls 8 -6 9 63, 0 -4 -9 71, 2 9 -3 60, -9 3 -1 97
+        spots -6087/281 -8635/281 1621/281, -231/29 4547/899 -9113/899, -231/29 3427/203 5143/203, 1311/77 17/77 -615/77
+        at(-99, 99, 99) 2; mostOf(-99, 99, 99) 1008513/203
         """);
     s.says("Promise 40", "As mostOf().", run.formatted("at", ""));
   }

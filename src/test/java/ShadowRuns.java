@@ -15,6 +15,11 @@ final class ShadowRuns {
   private static final String TWO_SPIKES = """
       walls -1 -1 -1 1, -1 -1 1 1, -1 1 -1 1, 1 -1 -1 1, 1 1 1 1, -1 1 1 1, 1 -1 1 1, 1 1 -1 1
       """;
+  /** The last four make a body with whole corners; no three of the ten meet in other than a place. */
+  private static final String FOUR_OF_TEN = """
+      walls 3 3 -4 98, 1 -1 -1 99, 4 2 -3 97, 1 1 -4 98, -3 3 -2 95, 4 0 2 97, -1 0 -1 11, 0 3 3 6, 0 -1 2 10, 3 -2 -3 7
+      points -15 -2, -9 -14, 5 -2, 0 13
+      """;
   /** Eight upright walls, a floor and a lid. */
   private static final String ALL_TEN = """
       walls 1 0 0 3, -1 0 0 3, 0 1 0 3, 0 -1 0 3, 1 1 0 4, 1 -1 0 4, -1 1 0 4, -1 -1 0 4, 0 0 1 1, 0 0 -1 1
@@ -29,6 +34,7 @@ final class ShadowRuns {
     seen(s);
     outside(s);
     fewest(s);
+    fewestByCorners(s);
     fewestOfSets(s);
     blown(s);
     callsOnTheShadow(s);
@@ -125,6 +131,25 @@ final class ShadowRuns {
         """);
   }
 
+  private static void fewestByCorners(Script s) {
+    s.says("Terms", "so that with these alone THE BODY is SOUND and THE FIGURE SEEN;", SQUARE + BodyRuns.CUBE + """
+        move(0, -2, -1) 1; missed() 1; beyond() 0; chosen none; move(0, -1, -1) 1; chosen 0 1 2 3 4 5    # a CORNER is missed
+        move(1, 2, -1) 1; missed() 1; beyond() 0; chosen none; move(1, 1, -1) 1
+        move(2, 2, 1) 1; missed() 1; beyond() 0; chosen none; move(2, 1, 1) 1
+        move(3, -2, 1) 1; missed() 1; beyond() 0; chosen none; move(3, -1, 1) 1
+        move(0, 0, 0) 1; missed() 0; beyond() 1; chosen none; move(0, -1, -1) 1                          # one is beyond
+        move(1, 0, 0) 1; missed() 0; beyond() 1; chosen none; move(1, 1, -1) 1
+        move(2, 0, 0) 1; missed() 0; beyond() 1; chosen none; move(2, 1, 1) 1
+        move(3, 0, 0) 1; missed() 0; beyond() 1; chosen none; move(3, -1, 1) 1; chosen 0 1 2 3 4 5
+        new                                     # a VERTEX within
+        walls 1 0 1 1, -1 0 1 1, 0 1 1 1, 0 -1 1 1, 0 0 -1 1; points -2 -2, 2 -2, 2 2, -2 2; chosen 0 1 2 3 4
+        new                                     # two on rims
+        walls 0 1 0 1, 0 -1 0 1, 0 0 -1 1, 1 0 1 1, -1 0 1 1; points -2 -1, 2 -1, 2 1, -2 1; vertices() 6; chosen 0 1 2 3 4
+        """ + "new\n" + FOUR_OF_TEN + """
+        vertices() 4; seen() 1; chosen 6 7 8 9; on(7, false) 1; chosen none
+        """);
+  }
+
   private static void fewestOfSets(Script s) {
     s.says("Terms", "of as many the first by WALLS (compared one by one).", SQUARE + TWO_SPIKES + """
         seen() 0; chosen 0 5 6 7                                # 0 is before 1; what comes behind does not count
@@ -145,6 +170,9 @@ final class ShadowRuns {
         new                                     # by a wall of the shadow that is none of the body
         walls 9 8 9 -1, 8 9 -8 1, -1 0 0 1, 0 -1 0 1; sound() 1; points 50 50; blow() 14450; points -50 -50; blow() 14450
         move(0, -50, -49) 1; blow() 50; move(0, 49, 50) 1; blow() 14306
+        new                                     # 0, 0 is within by the least
+        points 1 0, 1 1, 0 1, -1 0, -1 -1, 0 -1
+        walls 1 0 0 1, -1 0 0 1, 0 1 0 1, 0 -1 0 1, 1 -1 0 1, -1 1 0 1, 0 0 1 1, 0 0 -1 1; blow() 1; move(1, 2, 2) 1; blow() 2
         new
         walls 0 0 -1 0, 9 8 1 99, -9 7 2 98, 1 -9 3 97, 0 0 1 5; points -50 50; blow() 400/49
         move(0, 50, 50) 1; blow() 850/99; move(0, 0, -50) 1; blow() 450/97; move(0, 0, 0) 1; blow() 0
