@@ -160,7 +160,7 @@ public final class FactorsTest {
     for (int i = 0; i < 8; i++) {
       g.entry(true, i, i, 1);
       for (int j = 0; j < 12; j++) {
-        g.entry(false, i, j, (int) Math.min(9999, g.slack(i, j)));
+        g.entry(false, i, j, Math.min(9999, g.slack(i, j)));
       }
     }
     check.due("19: the ninth edge has no row of its own", g.wrong(), 800);

@@ -145,6 +145,9 @@ final class ShadowRuns {
         walls 1 0 1 1, -1 0 1 1, 0 1 1 1, 0 -1 1 1, 0 0 -1 1; points -2 -2, 2 -2, 2 2, -2 2; chosen 0 1 2 3 4
         new                                     # two on rims
         walls 0 1 0 1, 0 -1 0 1, 0 0 -1 1, 1 0 1 1, -1 0 1 1; points -2 -1, 2 -1, 2 1, -2 1; vertices() 6; chosen 0 1 2 3 4
+        """ + "new\n" + SQUARE + """
+        walls 1 0 0 1, 0 1 0 1, -1 -1 0 0, 0 0 1 1, 0 0 -1 1, 1 -1 0 0, -1 0 0 1; chosen none     # WALLS meet over each CORNER, in vain
+        walls 0 -1 0 1; chosen 0 1 3 4 6 7
         """ + "new\n" + FOUR_OF_TEN + """
         vertices() 4; seen() 1; chosen 6 7 8 9; on(7, false) 1; chosen none
         """);
